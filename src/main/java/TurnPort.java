@@ -25,7 +25,7 @@ public final class TurnPort {
     private static final int TAPE_ROOM = 40, MOST_TERMS = 6, MOST_NUMBER = 99, FIRST_FAULT = -20;
     private static final int WHOLE_RATE = 16;
     private static final int RANKS = 32, MOST_HEAPS = 8;
-    private static final int MOST_FOUND = 8, SMALL_LETTERS = 4, SMALL_NUMBERS = 4, SMALL_TERMS = 16;
+    private static final int MOST_FOUND = 8, SMALL_NUMBERS = 4, SMALL_TERMS = 16;
     private static final int MOST_ORDERED = 6, ORDER_SETS = 64;
 
     // Calls whose good answers may be below 0 move their bad ones out of the way by these.
@@ -159,10 +159,9 @@ public final class TurnPort {
         if (port.now + n > LAST_TICK) {
             return FULL;
         }
-        Word left = null;
         int until = port.now + n;
         for (int round = 0; round < n && port.now < until; round++) {
-            left = port.goOn(until);
+            Word left = port.goOn(until);
             if (left != null) {
                 streams[left.stream].taken += left.length;
             }
@@ -916,8 +915,8 @@ public final class TurnPort {
         }
 
         private void startSending() {
-            Word w = store.take(now);
-            if (w == null || turnCount >= turns.length) {
+            Word w = turnCount < turns.length ? store.take(now) : null;
+            if (w == null) {
                 return;
             }
             w.state = SENT;
