@@ -1057,13 +1057,16 @@ public final class TurnPort {
             }
         }
 
-        /** Turns pairs of two ranks into pairs within the span between them, narrow spans first. */
+        /**
+         * Turns pairs of two ranks into pairs within the span between them, narrow spans first. A
+         * span of one rank or of none stands on the diagonal or below it, where all is 0.
+         */
         private void addUpSpans() {
             for (int width = 1; width < RANKS; width++) {
                 for (int a = 0; a + width < RANKS; a++) {
                     int b = a + width;
-                    int inner = width > 1 ? spanCost[(a + 1) * RANKS + b - 1] : 0;
-                    spanCost[a * RANKS + b] += spanCost[(a + 1) * RANKS + b] + spanCost[a * RANKS + b - 1] - inner;
+                    int both = spanCost[(a + 1) * RANKS + b] + spanCost[a * RANKS + b - 1];
+                    spanCost[a * RANKS + b] += both - spanCost[(a + 1) * RANKS + b - 1];
                 }
             }
         }
