@@ -16,13 +16,6 @@ public final class PlansTest {
         Due.end("PlansTest");
     }
 
-    private static void row(TurnPort x, int sheet, int lane, int... items) {
-        x.sheet(sheet, lane, items.length);
-        for (int i = 0; i < items.length; i++) {
-            x.item(sheet, lane, i, items[i]);
-        }
-    }
-
     private static void promise() {
         TurnPort x = new TurnPort();
         Due.is("alone", x.promise(0, 99), 99);
@@ -100,7 +93,7 @@ public final class PlansTest {
 
     private static void heaps() {
         TurnPort x = new TurnPort();
-        row(x, 1, 2, 31, 16, 15, 8, 7, 4, 3, 0);
+        Rows.put(x, 1, 2, 31, 16, 15, 8, 7, 4, 3, 0);
         int[] k = {1, 2, 4, 8};
         int[] due = {28, 1 + 15, 1 + 6, 1 + 1};
         for (int i = 0; i < 4; i++) {
@@ -116,25 +109,25 @@ public final class PlansTest {
     }
 
     private static int rowHeaps(TurnPort x, int... items) {
-        row(x, 1, 2, items);
+        Rows.put(x, 1, 2, items);
         return x.heaps(1, 2, 0, items.length, 1);
     }
 
     private static void cut() {
         TurnPort x = new TurnPort();
-        row(x, 0, 1, 3, 2, 1, 0);
+        Rows.put(x, 0, 1, 3, 2, 1, 0);
         int[] due = {6, 2, 1, 0, 0, 0, 0, 0};
         for (int k = 1; k <= 8; k++) {
             Due.is("cut by " + k, x.cut(0, 1, 0, 4, k), due[k - 1]);
         }
-        row(x, 0, 1, 31, 0, 31, 0);
+        Rows.put(x, 0, 1, 31, 0, 31, 0);
         Due.is("ends: one heap", x.cut(0, 1, 0, 4, 1), 3);
         Due.is("ends: two heaps", x.cut(0, 1, 0, 4, 2), 0);
         int[] all = new int[24];
         for (int i = 0; i < 24; i++) {
             all[i] = 23 - i;
         }
-        row(x, 0, 1, all);
+        Rows.put(x, 0, 1, all);
         Due.is("24 falling by 1", x.cut(0, 1, 0, 24, 1), 276);
         Due.is("24 falling by 8: threes", x.cut(0, 1, 0, 24, 8), 24);
         Due.is("24 falling by 5: fives and a four", x.cut(0, 1, 0, 24, 5), 46);
@@ -176,7 +169,7 @@ public final class PlansTest {
         word(x, 1, 9, 30);
         word(x, 2, 5, 20);
         word(x, 2, 7, 10);
-        row(x, 0, 0, 0, 1, 2, 2, 1, 0, 1, 2, 0, 3, -1);
+        Rows.put(x, 0, 0, 0, 1, 2, 2, 1, 0, 1, 2, 0, 3, -1);
         Due.is("by c, like ones as they came", x.found(0, 0, 0, 3), 11);
         Due.is("by d", x.found(0, 0, 3, 3), 14);
         Due.is("by l", x.found(0, 0, 6, 3), 12);
@@ -188,9 +181,9 @@ public final class PlansTest {
         x.full(0, 1);
         word(x, 9, 99, 9);
         word(x, 9, 99, 9);
-        row(x, 1, 0, 3, 4);
+        Rows.put(x, 1, 0, 3, 4);
         Due.is("of a dropped one", x.found(1, 0, 0, 2), 11);
-        row(x, 1, 0, 4, 3);
+        Rows.put(x, 1, 0, 4, 3);
         Due.is("of like ones the first to come is not first", x.found(1, 0, 0, 2), TurnPort.NONE);
         int[][] calls = {
             {-1, 0, 0, 2, TurnPort.BAD}, {4, 0, 0, 2, TurnPort.BAD}, {0, 3, 0, 2, TurnPort.BAD},
@@ -208,25 +201,25 @@ public final class PlansTest {
         word(x, 0, 8, 10);
         word(x, 3, 6, 11);
         word(x, 5, 1, 10);
-        row(x, 2, 1, 2, 0, 1);
+        Rows.put(x, 2, 1, 2, 0, 1);
         Due.is("l 1 8 6, c 5 0 3: 1c+1l is 6 8 9", x.found(2, 1, 0, 3), 1112);
         TurnPort y = new TurnPort();
         word(y, 4, 1, 900);
         word(y, 3, 3, 800);
         word(y, 0, 9, 700);
-        row(y, 2, 1, 1, 0, 2);
+        Rows.put(y, 2, 1, 1, 0, 2);
         Due.is("c 3 4 0, l 3 1 9: 2c+1l is 9 9 9, but 1 behind 0", y.found(2, 1, 0, 3), TurnPort.NONE);
         TurnPort z = new TurnPort();
         word(z, 4, 1, 800);
         word(z, 2, 4, 900);
         word(z, 0, 9, 700);
-        row(z, 2, 1, 1, 0, 2);
+        Rows.put(z, 2, 1, 1, 0, 2);
         Due.is("c 2 4 0, l 4 1 9: 2c+1l is 8 9 9", z.found(2, 1, 0, 3), 2112);
         TurnPort v = new TurnPort();
         word(v, 4, 1, 9);
         word(v, 2, 4, 10);
         word(v, 0, 9, 14);
-        row(v, 2, 1, 1, 0, 2);
+        Rows.put(v, 2, 1, 1, 0, 2);
         Due.is("1c+1d is 12 13 14: the first term's number counts more than the second's letter",
             v.found(2, 1, 0, 3), 1114);
     }
@@ -236,7 +229,7 @@ public final class PlansTest {
         word(x, 0, 5, 5);
         word(x, 0, 3, 3);
         word(x, 0, 1, 100);
-        row(x, 3, 2, 2, 0, 1);
+        Rows.put(x, 3, 2, 2, 0, 1);
         Due.is("1, 0, 2: 0 + 3 + 0", x.order(3, 2, 0, 3, -1), 3);
         int[] due = {1, 0, 2};
         for (int i = 0; i < 3; i++) {
@@ -246,13 +239,13 @@ public final class PlansTest {
         for (int i = 0; i < 6; i++) {
             word(y, 0, 2, 50);
         }
-        row(y, 3, 2, 5, 3, 4, 1, 0, 2);
+        Rows.put(y, 3, 2, 5, 3, 4, 1, 0, 2);
         Due.is("none late", y.order(3, 2, 0, 6, -1), 0);
         for (int i = 0; i < 6; i++) {
             Due.is("of like ones by numbers " + i, y.order(3, 2, 0, 6, i), i);
         }
         y.ticks(1);
-        row(y, 3, 2, 5, 1);
+        Rows.put(y, 3, 2, 5, 1);
         Due.is("from NOW, though one is sent", y.order(3, 2, 0, 2, -1), 0);
         y.ticks(7);
         TurnPort z = new TurnPort();
@@ -261,7 +254,7 @@ public final class PlansTest {
         z.come(0, 2);
         z.come(0, 2);
         z.ticks(1);
-        row(z, 3, 2, 1);
+        Rows.put(z, 3, 2, 1);
         Due.is("no gates; from NOW", z.order(3, 2, 0, 1, -1), 0);
         z.ticks(8);
         Due.is("late by 7", z.order(3, 2, 0, 1, -1), 7);
@@ -275,7 +268,7 @@ public final class PlansTest {
         x.come(0, 5);
         x.full(0, 1);
         x.come(0, 5);
-        row(x, 0, 0, 0, 1, 2, 2, 3, 4, -1);
+        Rows.put(x, 0, 0, 0, 1, 2, 2, 3, 4, -1);
         x.ticks(2);
         int[][] calls = {
             {0, 0, 0, 1, -1, TurnPort.NOT}, {0, 0, 1, 1, -1, TurnPort.NOT}, {0, 0, 2, 1, 0, 2},
