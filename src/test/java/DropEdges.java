@@ -230,6 +230,29 @@ final class DropEdges {
         x.full(0, 24);
         x.come(0, 1);
         turns("marks are of 2, 4, 6 and 7: of houses 0, 1, 1, 0", x, 0, 2, 6, 5, 3, 4);
+        onlyMarkOfItsHouse();
+    }
+
+    /** House 0's one mark, of tick 2, goes with word 1, whose own has gone with word 2. */
+    private static void onlyMarkOfItsHouse() {
+        TurnPort x = new TurnPort();
+        x.set(1, 4, 1);
+        Tapes.rule(x, 0, "-t");
+        x.come(7, 3);
+        x.ticks(1);
+        x.come(0, 9);
+        x.ticks(1);
+        x.come(0, 9);
+        x.ticks(2);
+        x.full(0, 1);
+        x.full(1, 1);
+        x.come(1, 1);
+        are("word 1 is of greatest rank", x, 2, 3, 1, 0);
+        x.full(0, 24);
+        x.ticks(1);
+        x.come(0, 1);
+        Due.is("house 0 has but the mark of tick 5", x.next(), 3);
+        turns("house 1 goes first", x, 0, 2, 3, 4);
     }
 
     private static void nothingBack() {
