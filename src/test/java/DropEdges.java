@@ -231,6 +231,7 @@ final class DropEdges {
         x.come(0, 1);
         turns("marks are of 2, 4, 6 and 7: of houses 0, 1, 1, 0", x, 0, 2, 6, 5, 3, 4);
         onlyMarkOfItsHouse();
+        markGoneWhenAllIsFull();
     }
 
     /** House 0's one mark, of tick 2, goes with word 1, whose own has gone with word 2. */
@@ -253,6 +254,29 @@ final class DropEdges {
         x.come(0, 1);
         Due.is("house 0 has but the mark of tick 5", x.next(), 3);
         turns("house 1 goes first", x, 0, 2, 3, 4);
+    }
+
+    /** 24 wait, one more comes, and the first, whose mark has gone with the second, is dropped. */
+    private static void markGoneWhenAllIsFull() {
+        TurnPort x = new TurnPort();
+        Tapes.rule(x, 0, "-n");
+        x.full(1, 1);
+        x.come(0, 1);
+        x.come(0, 50);
+        x.ticks(1);
+        are("the second went by the first one's mark", x, 0, 1);
+        for (int i = 0; i < 23; i++) {
+            x.come(0, 1);
+        }
+        Due.is("24 wait", x.count(1), 24);
+        Due.is("none was dropped", x.count(4), 0);
+        x.come(0, 1);
+        Due.is("24 wait still", x.count(1), 24);
+        Due.is("the first was dropped", x.told(0, 0), 3);
+        x.ticks(49 + 23);
+        Due.is("one is left to go", x.count(1), 1);
+        x.ticks(1);
+        Due.is("as many marks as words: all left", x.count(3), 25);
     }
 
     private static void nothingBack() {
