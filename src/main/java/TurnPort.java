@@ -26,7 +26,7 @@ public final class TurnPort {
     private static final int WHOLE_RATE = 16;
     private static final int RANKS = 32, MOST_HEAPS = 8;
     private static final int MOST_FOUND = 8, SMALL_NUMBERS = 4, SMALL_TERMS = 16;
-    private static final int MOST_ORDERED = 6, ORDER_SETS = 64;
+    private static final int MOST_ORDERED = 6, ORDER_SETS = 64, MORE_THAN_LATE = 1000000000;
 
     // Calls whose good answers may be below 0 move their bad ones out of the way by these.
     private static final long BELOW_RANKS = 1L << 40;
@@ -1167,7 +1167,7 @@ public final class TurnPort {
             least[all] = 0;
             for (int gone = all - 1; gone >= 0; gone--) {
                 int start = now + lengthOf(gone);
-                int sum = Integer.MAX_VALUE;
+                int sum = MORE_THAN_LATE;
                 for (int i = 0; i < size; i++) {
                     if ((gone >> i & 1) == 0) {
                         sum = Math.min(sum, lateFrom(start, i) + least[gone | 1 << i]);

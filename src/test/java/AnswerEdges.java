@@ -114,7 +114,7 @@ final class AnswerEdges {
     }
 
     /** Words that left, are sent, wait open and closed, were dropped; two rules, a tape, three rows. */
-    private static TurnPort busy() {
+    static TurnPort busy() {
         TurnPort x = new TurnPort();
         Tapes.rule(x, 0, "l-n");
         Tapes.rule(x, 1, "d+c");
@@ -208,6 +208,11 @@ final class AnswerEdges {
     private static void nothing(String name, long due, ToLongFunction<TurnPort> call) {
         TurnPort x = busy();
         Due.is(name, call.applyAsLong(x), due);
+        unchanged(name, x);
+    }
+
+    /** An object is still as busy() made it. */
+    static void unchanged(String name, TurnPort x) {
         Due.holds(name + " changes nothing", all(x).equals(all(busy())));
     }
 

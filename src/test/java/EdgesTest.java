@@ -7,6 +7,7 @@ import java.io.IOException;
 public final class EdgesTest {
     public static void main(String[] args) throws IOException {
         Said.open();
+        WholeEdges.run();
         FaceEdges.run();
         AnswerEdges.run();
         WordEdges.run();

@@ -3,8 +3,8 @@ import java.nio.file.Files;
 import java.nio.file.Path;
 
 /**
- * The document's own words. A test says which of them it looks at; what stands between "Terms" and
- * "Not promised" and was said by no test is a fault, and so are words that the document does not have.
+ * The document's own words, from its first line to its last. A test says which of them it looks at;
+ * words that were said by no test are a fault, and so are words that the document does not have.
  */
 final class Said {
     private static final Path DOC = Path.of("../shared/DOC.md");
@@ -21,11 +21,8 @@ final class Said {
             return;
         }
         StringBuilder s = new StringBuilder();
-        boolean within = false;
         for (String line : Files.readAllLines(DOC)) {
-            if (line.startsWith("## ")) {
-                within = line.equals("## Terms") || line.startsWith("## Promise ");
-            } else if (within && !line.startsWith("```")) {
+            if (!line.startsWith("#") && !line.startsWith("```")) {
                 s.append(line).append(' ');
             }
         }
